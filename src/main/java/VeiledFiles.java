@@ -197,7 +197,7 @@ public final class VeiledFiles {
     private int entryOf(int block) {
         int entry = block % ENTRIES;
         int word = map.wordOf(block / ENTRIES, entry / 2);
-        return word >>> entryShift(entry) & ENTRY_MASK;
+        return (word >>> entryShift(entry)) & ENTRY_MASK;
     }
 
     /** Lasts only while the map block of this data block is in the stash. */
@@ -205,7 +205,7 @@ public final class VeiledFiles {
         int entry = block % ENTRIES;
         int shift = entryShift(entry);
         int others = map.wordOf(block / ENTRIES, entry / 2) & ~(ENTRY_MASK << shift);
-        map.setWord(block / ENTRIES, entry / 2, others | leaf << shift);
+        map.setWord(block / ENTRIES, entry / 2, others | (leaf << shift));
     }
 
     private static int entryShift(int entry) {
@@ -364,7 +364,7 @@ public final class VeiledFiles {
 
         /** The bucket so many levels over the lowest one of a leaf's path. */
         private int bucketOver(int leaf, int up) {
-            return (leafCount + leaf >> up) - 1;
+            return ((leafCount + leaf) >> up) - 1;
         }
 
         /** Only for buckets that lie plain. */
