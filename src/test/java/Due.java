@@ -1,4 +1,4 @@
-/** Counts the answers that are not the due ones, and ends a test with exit code 1 if there are any. */
+/** Counts the answers that are not the due ones; any of them ends a test with exit code 1. */
 final class Due {
     private static final int MOST_LINES = 40;
 

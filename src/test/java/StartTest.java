@@ -1,58 +1,64 @@
+import java.util.List;
+
 /** Promises 1 and 2: a new object, and start. */
 public final class StartTest {
-    private static final int[] BUCKETS = {7, 63};
-    private static final Due due = new Due();
-
-    /** Makes an object anew for every few questions, since each answers only 512 calls. */
-    private interface Maker {
-        VeiledFiles make();
-    }
+    private static final Run NEW = VeiledFiles::new;
+    private static final Run BUSY = () -> {
+        VeiledFiles x = new VeiledFiles();
+        for (int f = 0; f < 8; f++) {
+            x.create(f);
+            Run.writeWords(x, f, 9);
+        }
+        x.alter(1, 62, 3, 0);
+        return x;
+    };
 
     public static void main(String[] args) {
-        aNewObjectIsAsAfterStart();
-        theStoreIsAsDrawn();
-        seedZeroIsSeedOne();
-        theKeyChangesTheSealsAlone();
-        allBeginsAnew();
-        aDeadDeviceBeginsAnew();
-        due.end();
+        Sentences sentences = new Sentences();
+        sentences.of("Promise 1");
+        sentences.holds("As after start(1, 0)", StartTest::aNewObjectIsAsAfterStart);
+        sentences.of("Promise 2");
+        sentences.holds("start, with the ends of the seeds and keys", StartTest::theStoreIsAsDrawn);
+        sentences.holds("start, with another key", StartTest::theKeyChangesTheSealsAlone);
+        sentences.holds("All begins anew, after use", StartTest::allBeginsAnewAfterUse);
+        sentences.holds("All begins anew, with blocks in the STASH",
+                StartTest::theStashIsLeftBehind);
+        sentences.holds("All begins anew, the device being DEAD", StartTest::aDeadDeviceBeginsAnew);
+        sentences.holds("All begins anew, twice", StartTest::twoStartsAreAsOne);
+        sentences.holds("with no files", StartTest::eightFilesAreGone);
+        sentences.end();
     }
 
-    private static void aNewObjectIsAsAfterStart() {
-        sameStore("new", VeiledFiles::new, modelOf(1, 0));
-        isFresh("new", new VeiledFiles());
+    private static void aNewObjectIsAsAfterStart(Due due) {
+        sameStore(due, "new", NEW, modelOf(1, 0));
+        isFresh(due, "new", new VeiledFiles());
         VeiledFiles x = new VeiledFiles();
         due.is("sealed(1, 0, 0)", x.sealed(1, 0, 0), -740608250);
         due.is("sealed(1, 0, 24)", x.sealed(1, 0, 24), 922824475);
         due.is("sealed(0, 0, 2)", x.sealed(0, 0, 2), -192256037);
+        VeiledFiles one = Run.idled(Run.started(1, 0), 50);
+        Run.idled(x, 50);
+        due.is("trace(0, 0) after 50 accesses", x.trace(0, 0), one.trace(0, 0));
+        due.is("trace(0, 1) after 50 accesses", x.trace(0, 1), one.trace(0, 1));
     }
 
-    /** At the fifth seed blocks are crowded up to the third level from above. */
-    private static void theStoreIsAsDrawn() {
-        int[] seeds = {1, -1, Integer.MIN_VALUE, Integer.MAX_VALUE, 1154186799, 12345};
-        int[] keys = {0, -1, Integer.MAX_VALUE, Integer.MIN_VALUE, 7, -99};
-        for (int k = 0; k < seeds.length; k++) {
-            int seed = seeds[k];
-            int key = keys[k];
+    private static void theStoreIsAsDrawn(Due due) {
+        int[] ends = {0, -1, Integer.MIN_VALUE, Integer.MAX_VALUE};
+        for (int k = 0; k < 8; k++) {
+            int seed = ends[k % 4];
+            int key = ends[(k + k / 4) % 4];
             String call = "start(" + seed + ", " + key + ")";
-            sameStore(call, () -> started(seed, key), modelOf(seed, key));
-            isFresh(call, started(seed, key));
+            sameStore(due, call, () -> Run.started(seed, key), modelOf(seed, key));
+            isFresh(due, call, Run.started(seed, key));
         }
     }
 
-    private static void seedZeroIsSeedOne() {
-        sameStore("start(0, 5)", () -> started(0, 5), modelOf(1, 5));
-    }
-
-    /** With the same seed and another key the pads differ, the plain words do not. */
-    private static void theKeyChangesTheSealsAlone() {
-        VeiledFiles one = started(9, 100);
-        VeiledFiles other = started(9, 101);
-        int differing = 0;
-        for (int i = 0; i < 25; i++) {
-            differing += one.sealed(1, 40, i) == other.sealed(1, 40, i) ? 0 : 1;
-        }
-        due.is("words of a bucket that another key changes", differing, 25);
+    /** With the same seed and another key the pads differ, the draws do not. */
+    private static void theKeyChangesTheSealsAlone(Due due) {
+        VeiledFiles one = Run.started(9, 100);
+        VeiledFiles other = Run.started(9, 101);
+        due.is("words of a bucket that another key leaves",
+                Store.same(Store.words(one, 1, 40), Store.words(other, 1, 40)), 0);
         one.create(1);
         other.create(1);
         for (int i = 0; i < 20; i++) {
@@ -63,40 +69,87 @@ public final class StartTest {
         }
     }
 
-    private static void allBeginsAnew() {
-        Maker used = () -> {
-            VeiledFiles x = new VeiledFiles();
-            for (int f = 0; f < 8; f++) {
-                x.create(f);
-                for (int i = 0; i < 9; i++) {
-                    x.write(f, i, -1 - i);
-                }
+    private static void allBeginsAnewAfterUse(Due due) {
+        Run again = startedAgain(BUSY);
+        sameStore(due, "start(77, 8) after use", again, modelOf(77, 8));
+        isFresh(due, "start(77, 8) after use", again.made());
+        sameAccesses(due, again.made());
+    }
+
+    private static void theStashIsLeftBehind(Due due) {
+        boolean[] seen = new boolean[2];
+        for (int n = 1; n <= 300 && !(seen[0] && seen[1]); n++) {
+            VeiledFiles x = Run.started(n * 7919, 1);
+            for (int k = 0; k < 100 && x.stash(0) + x.stash(1) == 0; k++) {
+                x.idle();
             }
-            x.alter(1, 62, 3, 0);
+            seen[0] |= x.stash(0) > 0;
+            seen[1] |= x.stash(1) > 0;
             x.start(77, 8);
-            return x;
-        };
-        sameStore("start(77, 8) after use", used, modelOf(77, 8));
-        VeiledFiles x = used.make();
-        isFresh("start(77, 8) after use", x);
-        for (int f = 0; f < 8; f++) {
-            due.is("create(" + f + ") after a new start", x.create(f), f);
+            due.is("stash(0) after start", x.stash(0), 0);
+            due.is("stash(1) after start", x.stash(1), 0);
+            sameAccesses(due, x);
+        }
+        due.is("blocks in both stashes were seen", seen[0] && seen[1], true);
+    }
+
+    private static void aDeadDeviceBeginsAnew(Due due) {
+        for (int tree = 0; tree < 2; tree++) {
+            int died = tree;
+            Run again = startedAgain(() -> Run.dead(BUSY.made(), died));
+            due.is("state(3) ahead of start", Run.dead(BUSY.made(), tree).state(3), 1);
+            sameStore(due, "start(77, 8) of a dead device", again, modelOf(77, 8));
+            isFresh(due, "start(77, 8) of a dead device", again.made());
+            sameAccesses(due, again.made());
         }
     }
 
-    private static void aDeadDeviceBeginsAnew() {
-        VeiledFiles x = new VeiledFiles();
-        x.create(4);
-        x.alter(0, 0, 0, 1);
-        due.illegalState("write on a spoilt store", () -> x.write(0, 0, 1));
-        x.start(3, 3);
-        isFresh("start(3, 3) of a dead device", x);
-        x.create(4);
-        due.nothingThrown("write(0, 0, 9) after a new start", () -> x.write(0, 0, 9));
-        due.is("read(0, 0) after a new start", x.read(0, 0), 9);
+    private static void twoStartsAreAsOne(Due due) {
+        Run again = startedAgain(() -> Run.started(77, 8));
+        sameStore(due, "start(77, 8) twice", again, modelOf(77, 8));
+        sameAccesses(due, again.made());
     }
 
-    private static void isFresh(String call, VeiledFiles x) {
+    private static void eightFilesAreGone(Due due) {
+        VeiledFiles x = startedAgain(BUSY).made();
+        for (int f = 0; f < 8; f++) {
+            int file = f;
+            due.is("find(" + f + ")", x.find(f), -1);
+            due.is("size(" + f + ")", x.size(f), -1);
+            due.outOfBounds("read(" + f + ", 0)", () -> x.read(file, 0));
+        }
+        for (int f = 0; f < 8; f++) {
+            due.is("create(" + f + ")", x.create(f), f);
+            due.is("size(" + f + ")", x.size(f), 0);
+        }
+    }
+
+    private static Run startedAgain(Run run) {
+        return () -> {
+            VeiledFiles x = run.made();
+            x.start(77, 8);
+            return x;
+        };
+    }
+
+    /** What is drawn after the start is as in a run that begins with it. */
+    private static void sameAccesses(Due due, VeiledFiles x) {
+        VeiledFiles y = Run.started(77, 8);
+        for (VeiledFiles each : List.of(x, y)) {
+            each.create(6);
+            Run.writeWords(each, 0, 9);
+            each.idle();
+        }
+        for (int k = 0; k < 11; k++) {
+            due.is("trace(" + k + ", 0)", x.trace(k, 0), y.trace(k, 0));
+            due.is("trace(" + k + ", 1)", x.trace(k, 1), y.trace(k, 1));
+        }
+        due.is("words of bucket 0 as due",
+                Store.same(Store.words(x, 1, 0), Store.words(y, 1, 0)), 25);
+        due.is("read(0, 8)", x.read(0, 8), Run.wordAt(8));
+    }
+
+    private static void isFresh(Due due, String call, VeiledFiles x) {
         due.is(call + ", state(0)", x.state(0), 0);
         due.is(call + ", state(1)", x.state(1), 0);
         due.is(call + ", state(2)", x.state(2), 64);
@@ -105,32 +158,26 @@ public final class StartTest {
         due.is(call + ", stash(1)", x.stash(1), 0);
         for (int k = 0; k < 64; k++) {
             due.is(call + ", trace(" + k + ", 0)", x.trace(k, 0), -1);
+            due.is(call + ", trace(" + k + ", 1)", x.trace(k, 1), -1);
         }
-        due.is(call + ", trace(0, 1)", x.trace(0, 1), -1);
         for (int f = 0; f < 8; f++) {
             due.is(call + ", size(" + f + ")", x.size(f), -1);
         }
         due.is(call + ", find(0)", x.find(0), -1);
     }
 
-    private static void sameStore(String call, Maker maker, Model want) {
+    private static void sameStore(Due due, String call, Run run, Model want) {
         for (int tree = 0; tree < 2; tree++) {
-            for (int b = 0; b < BUCKETS[tree]; b++) {
-                VeiledFiles x = maker.make();
+            for (int b = 0; b < Store.BUCKETS[tree]; b++) {
+                VeiledFiles x = run.made();
                 String place = "(" + tree + ", " + b;
                 due.is(call + ", counter" + place + ")", x.counter(tree, b), 1);
-                for (int i = 0; i < 25; i++) {
+                for (int i = 0; i < Store.WORDS; i++) {
                     due.is(call + ", sealed" + place + ", " + i + ")",
                             x.sealed(tree, b, i), want.sealed(tree, b, i));
                 }
             }
         }
-    }
-
-    private static VeiledFiles started(int seed, int key) {
-        VeiledFiles x = new VeiledFiles();
-        x.start(seed, key);
-        return x;
     }
 
     private static Model modelOf(int seed, int key) {
